@@ -13,6 +13,7 @@ public final class CopyingTest {
         backwardLeaps();
         backwardLeapIsShortAgain();
         backwardStretchesAreUntried();
+        sweepsWhatWasLeaptOver();
         sweepsWithoutLeaps();
         trimsBothEnds();
         trimsFirstSectorsBehindARunsEnd();
@@ -159,12 +160,20 @@ public final class CopyingTest {
         CHECK.due("stretches end at what is tried", Desks.steps(desk, 10, 4), "0:0 0:9 1:7-8 1:2-5");
     }
 
-    private static void sweepsWithoutLeaps() {
+    private static void sweepsWhatWasLeaptOver() {
         RescueDesk desk = Desks.blank(64, 0, 16, 40, 60, 33, 26, 50);
         desk.begin(0);
         desk.run(6);
         CHECK.due("p is behind the stretch, failed or not", Desks.steps(desk, 64, 3), "2:24-26 2:48-50 3:0");
         CHECK.due("what failed is UNTRIMMED", desk.state(24) * 10 + desk.state(55), 11);
+    }
+
+    private static void sweepsWithoutLeaps() {
+        // Short stretches, so that both ways' leaps leave 31-46 and 55-58 UNTRIED.
+        String map = "0" + "4".repeat(8) + "0" + "4".repeat(16) + "04" + "0".repeat(34) + "40";
+        RescueDesk desk = Desks.withMap(map, 0, 0, 9, 26, 59, 63, 50, 33);
+        desk.run(7);
+        CHECK.due("a failed read is no reason to leap", Desks.steps(desk, 64, 4), "2:31-33 2:39-46 2:55-58 3:0");
     }
 
     private static void trimsBothEnds() {
