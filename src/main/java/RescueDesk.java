@@ -192,7 +192,7 @@ public final class RescueDesk {
     }
 
     public int image(int slot, int place) {
-        return saves.has(slot, place) ? saves.byteAt(slot, place) : NONE;
+        return saves.byteAt(slot, place);
     }
 
     /** The source and the target, and what was read from the one to the other. */
@@ -543,7 +543,7 @@ public final class RescueDesk {
         }
 
         int byteAt(int slot, int place) {
-            return has(slot, place) ? slots[slot][place] : 0;
+            return has(slot, place) ? slots[slot][place] : NONE;
         }
 
         void put(int slot, int place, int v) {
