@@ -1,5 +1,7 @@
+import java.util.ArrayDeque;
 import java.util.ArrayList;
 import java.util.Arrays;
+import java.util.Deque;
 import java.util.List;
 import java.util.Random;
 import java.util.regex.Matcher;
@@ -30,11 +32,16 @@ public final class ModelTest {
         Model model = new Model();
         told.setLength(0);
         int calls = overviewed ? MOST_CALLS - OVERVIEW_CALLS : MOST_CALLS;
+        Deque<int[]> planned = new ArrayDeque<>();
         for (int i = 0; i < calls && wrong == 0; i++) {
-            int call = pick(random, model);
-            int a = argument(random, call, 0, model);
-            int b = argument(random, call, 1, model);
-            int c = argument(random, call, 2, model);
+            if (planned.isEmpty() && model.phase == 7 && random.nextInt(4) == 0) {
+                planImage(random, model, planned);
+            }
+            int[] next = planned.isEmpty() ? anyCall(random, model) : planned.remove();
+            int call = next[0];
+            int a = next[1];
+            int b = next[2];
+            int c = next[3];
             String got = answer(desk, call, a, b, c);
             told.append(NAMES[call]).append(' ').append(a).append(' ').append(b).append(' ').append(c)
                     .append(": ").append(got).append('\n');
@@ -55,7 +62,47 @@ public final class ModelTest {
 
     private static final String[] NAMES = {"source", "sector", "begin", "step", "run", "save", "stop", "resume",
         "poke", "second", "state", "count", "part", "phase", "out", "reads", "made", "image"};
+    private static final int RESUME = 7;
+    private static final int POKE = 8;
     private static final int[] WEIGHTS = {1, 30, 4, 60, 15, 15, 6, 12, 20, 10, 15, 10, 20, 5, 15, 15, 5, 20};
+
+    private static int[] anyCall(Random random, Model model) {
+        int call = pick(random, model);
+        int[] next = {call, 0, 0, 0};
+        for (int which = 0; which < 3; which++) {
+            next[which + 1] = argument(random, call, which, model);
+        }
+        return next;
+    }
+
+    /** Pokes of an image of many short runs, most often a whole one: single pokes would hardly ever make one. */
+    private static void planImage(Random random, Model model, Deque<int[]> planned) {
+        List<Integer> bytes = new ArrayList<>(List.of(random.nextInt(4) == 0 ? 199 : random.nextInt(203), 0));
+        int left = model.size;
+        int before = -1;
+        while (left > 0) {
+            int length = Math.min(left, 1 + random.nextInt(random.nextInt(3) == 0 ? 30 : 4));
+            int state = random.nextInt(2) == 0 ? 0 : random.nextInt(5);
+            state = state == before && random.nextInt(40) > 0 ? (state + 1) % 5 : state;
+            bytes.add(random.nextInt(200) == 0 ? 0 : length);
+            bytes.add(random.nextInt(200) == 0 ? 5 : state);
+            left -= length;
+            before = state;
+        }
+        bytes.set(1, bytes.size() / 2 - 1);
+        int sum = 0;
+        for (int place = 0; place < bytes.size(); place++) {
+            sum += bytes.get(place) * (place + 1);
+        }
+        bytes.add(sum % 251);
+        int slot = random.nextInt(2);
+        for (int place = 0; place < bytes.size(); place++) {
+            planned.add(new int[] {POKE, slot, place, bytes.get(place)});
+        }
+        if (random.nextInt(3) > 0) {
+            planned.add(new int[] {RESUME, 0, 0, 0});
+        }
+    }
 
     private static int pick(Random random, Model model) {
         if (model.size == 0 && random.nextInt(3) > 0) {
@@ -84,7 +131,7 @@ public final class ModelTest {
             case "source":
                 return 1 + random.nextInt(64);
             case "sector":
-                return which == 0 ? sector : which == 1 ? random.nextInt() : random.nextInt(6) - 1;
+                return which == 0 ? sector : which == 1 ? random.nextInt() : random.nextInt(3) == 0 ? -1 : random.nextInt(5);
             case "begin":
                 return random.nextInt(6);
             case "run":
