@@ -4,16 +4,50 @@ final class Check {
         void make();
     }
 
+    private static final long MOST_SECONDS = 300;
+
     private int right;
     private int wrong;
+    private int sentences;
+    private int answersBefore;
+    private String sentence = "";
+
+    Check() {
+        watch();
+    }
+
+    /** Ends a test whose calls never end, so that it fails and the others are run. */
+    static void watch() {
+        Thread watcher = new Thread(() -> {
+            try {
+                Thread.sleep(MOST_SECONDS * 1000);
+            } catch (InterruptedException e) {
+                return;
+            }
+            System.out.println("a call did not end within " + MOST_SECONDS + " seconds");
+            Runtime.getRuntime().halt(1);
+        });
+        watcher.setDaemon(true);
+        watcher.start();
+    }
+
+    /** The document's sentence that the next answers are about; one without an answer is a fault of the test. */
+    void about(String words) {
+        endSentence();
+        sentence = words;
+        sentences++;
+        answersBefore = right + wrong;
+    }
+
+    private void endSentence() {
+        if (sentences > 0 && right + wrong == answersBefore) {
+            wrong++;
+            System.out.println("not tested: " + sentence);
+        }
+    }
 
     void due(String call, long got, long want) {
-        if (got == want) {
-            right++;
-        } else {
-            wrong++;
-            System.out.println(call + " answered " + got + ", due is " + want);
-        }
+        due(call, "" + got, "" + want);
     }
 
     void due(String call, boolean got, boolean want) {
@@ -25,7 +59,8 @@ final class Check {
             right++;
         } else {
             wrong++;
-            System.out.println(call + " answered " + got + ", due is " + want);
+            System.out.println((sentence.isEmpty() ? "" : "[" + sentence + "] ")
+                    + call + " answered " + got + ", due is " + want);
         }
     }
 
@@ -47,7 +82,9 @@ final class Check {
     }
 
     void end() {
-        System.out.println(right + " answers are as due, " + wrong + " are not");
+        endSentence();
+        System.out.println((sentences == 0 ? "" : sentences + " sentences: ")
+                + right + " answers are as due, " + wrong + " are not");
         if (wrong != 0) {
             System.exit(1);
         }

@@ -29,7 +29,15 @@ final class Desks {
 
     /** A desk that has begun, with the map that these digits tell. */
     static RescueDesk withMap(String states, int retries, int... failing) {
-        RescueDesk desk = of(states.length(), failing);
+        return begun(of(states.length(), failing), states, retries);
+    }
+
+    /** The same with all words 0, for long maps. */
+    static RescueDesk blankMap(String states, int retries, int... failing) {
+        return begun(blank(states.length(), failing), states, retries);
+    }
+
+    private static RescueDesk begun(RescueDesk desk, String states, int retries) {
         desk.begin(retries);
         desk.stop(0);
         pokeImage(desk, 0, 10, runs(states));
@@ -72,7 +80,7 @@ final class Desks {
     static String map(RescueDesk desk) {
         StringBuilder states = new StringBuilder();
         int state = desk.state(0);
-        for (int s = 1; state != RescueDesk.NONE; s++) {
+        for (int s = 1; state != RescueDesk.NONE && s <= 65; s++) {
             states.append(state);
             state = desk.state(s);
         }

@@ -81,20 +81,15 @@ public final class FaceTest {
 
     private static Set<String> hiddenNamesakes() {
         Set<String> open = new TreeSet<>();
-        for (Method method : RescueDesk.class.getMethods()) {
-            open.add(method.getName());
+        for (Method method : RescueDesk.class.getDeclaredMethods()) {
+            if (Modifier.isPublic(method.getModifiers())) {
+                open.add(method.getName());
+            }
         }
         Set<String> namesakes = new TreeSet<>();
         for (Method method : RescueDesk.class.getDeclaredMethods()) {
             if (Modifier.isPrivate(method.getModifiers()) && open.contains(method.getName())) {
                 namesakes.add(method.toString());
-            }
-        }
-        for (Class<?> inside : RescueDesk.class.getDeclaredClasses()) {
-            for (Method method : inside.getDeclaredMethods()) {
-                if (open.contains(method.getName())) {
-                    namesakes.add(method.toString());
-                }
             }
         }
         return namesakes;

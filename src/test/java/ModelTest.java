@@ -17,6 +17,7 @@ public final class ModelTest {
     private final StringBuilder told = new StringBuilder();
 
     public static void main(String[] args) {
+        Check.watch();
         ModelTest test = new ModelTest();
         for (int seed = 0; seed < RUNS && test.wrong == 0; seed++) {
             test.compare(new Random(seed), seed % 2 == 0);
