@@ -638,8 +638,9 @@ public final class RescueDesk {
                 return;
             }
             lastNumber = byteAt(slot, 0);
+            int runs = byteAt(slot, 1);
             int first = 0;
-            for (int i = 0; i < byteAt(slot, 1); i++) {
+            for (int i = 0; i < runs; i++) {
                 int behind = first + byteAt(slot, placeOfRun(i));
                 map.mark(first, behind, byteAt(slot, placeOfRun(i) + 1));
                 first = behind;
