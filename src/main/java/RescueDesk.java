@@ -555,7 +555,7 @@ public final class RescueDesk {
         int write(SectorMap map, int keep) {
             lastNumber = behindNumber(lastNumber);
             int written = Math.min(keep, draw(map));
-            for (int place = 0; place < written; place++) {
+            for (int place = 0; place < written && place < drawn.length; place++) {
                 put(lastNumber % SLOTS, place, drawn[place]);
             }
             return lastNumber;
@@ -566,17 +566,22 @@ public final class RescueDesk {
             int runs = 0;
             for (int s = 0; s < map.size(); s++) {
                 if (map.startsRun(s)) {
-                    int place = placeOfRun(runs);
-                    drawn[place] = map.behindStretch(s, MOST_SECTORS) - s;
-                    drawn[place + 1] = map.stateOf(s);
+                    putDrawn(placeOfRun(runs), map.behindStretch(s, MOST_SECTORS) - s);
+                    putDrawn(placeOfRun(runs) + 1, map.stateOf(s));
                     runs++;
                 }
             }
-            drawn[0] = lastNumber;
-            drawn[1] = runs;
+            putDrawn(0, lastNumber);
+            putDrawn(1, runs);
             int sumPlace = placeOfRun(runs);
-            drawn[sumPlace] = sumBefore(drawn, sumPlace);
+            putDrawn(sumPlace, sumBefore(drawn, sumPlace));
             return sumPlace + 1;
+        }
+
+        private void putDrawn(int place, int v) {
+            if (place >= 0 && place < drawn.length) {
+                drawn[place] = v;
+            }
         }
 
         private int placeOfRun(int i) {
@@ -609,7 +614,7 @@ public final class RescueDesk {
 
         private boolean isWhole(int slot, int sectors) {
             int runs = byteAt(slot, 1);
-            if (byteAt(slot, 0) >= SAVE_NUMBERS || runs > sectors) {
+            if (!has(slot, 1) || byteAt(slot, 0) >= SAVE_NUMBERS || runs > sectors) {
                 return false;
             }
             int sumPlace = placeOfRun(runs);
